@@ -652,10 +652,11 @@ public final class FogWatch {
             if (faultKind != 0) {
                 return NONE;
             }
-            for (int i = 0; i < TAPE_BYTES && byteAt(place) == BLANK; i++) {
-                place++;
+            int last = Math.min(end, bytes.length);
+            for (int at = place; at < last && bytes[at] == BLANK; at++) {
+                place = at + 1;
             }
-            return byteAt(place);
+            return place < last ? bytes[place] & 255 : NONE;
         }
 
         void pass() {
@@ -687,7 +688,8 @@ public final class FogWatch {
                 return false;
             }
             for (int i = 0; i < word.length(); i++) {
-                if (byteAt(mark + i) != word.charAt(i)) {
+                int at = mark + i;
+                if (at < 0 || at >= bytes.length || bytes[at] != word.charAt(i)) {
                     return false;
                 }
             }
@@ -1077,8 +1079,7 @@ public final class FogWatch {
                     put(REST, tape.readNumber(1, MOST_REST), 0);
                     break;
                 case WALK:
-                    int man = tape.readNumber(0, town.men - 1);
-                    put(WALK, man, tape.readNumber(0, town.corners - 1));
+                    readWalk(tape, town);
                     break;
                 case NIGHT:
                     put(NIGHT, 0, 0);
@@ -1109,6 +1110,11 @@ public final class FogWatch {
                 return NIGHT;
             }
             return tape.wordIs("again") ? AGAIN : UNKNOWN;
+        }
+
+        private void readWalk(Tape tape, Town town) {
+            int man = tape.readNumber(0, town.men - 1);
+            put(WALK, man, tape.readNumber(0, town.corners - 1));
         }
 
         private void readAgain(Tape tape, Town town, int open) {
@@ -1284,10 +1290,14 @@ public final class FogWatch {
             return who;
         }
 
+        /** Ten corners of three bits each hold all counts in one number, as there are five men at most. */
         int crowd(int men) {
+            int counts = 0;
             int most = 0;
             for (int man = 0; man < men; man++) {
-                most = Math.max(most, Integer.bitCount(menIn(1 << ofMan(man, PLACE), men)));
+                int shift = 3 * ofMan(man, PLACE);
+                counts += 1 << shift;
+                most = Math.max(most, counts >> shift & 7);
             }
             return most;
         }
@@ -1567,7 +1577,7 @@ public final class FogWatch {
         }
 
         int meeting() {
-            return found > 0 ? Integer.numberOfTrailingZeros(found) : NONE;
+            return found > 0 ? Integer.bitCount(found - 1) : NONE;
         }
 
         int whistle(int k) {
@@ -1682,7 +1692,7 @@ public final class FogWatch {
         }
     }
 
-    /** Marks of each two corners. */
+    /** Marks of each two corners, whichever of the two is named first. */
     private static final class Pairs {
         private static final int PAIRS = MOST_CORNERS * MOST_CORNERS;
         private static final int OPEN = 0;
@@ -1694,6 +1704,11 @@ public final class FogWatch {
         int markOf(int corner, int other) {
             int at = corner * MOST_CORNERS + other;
             return at >= 0 && at < marks.length ? marks[at] : NONE;
+        }
+
+        private void setBoth(int corner, int other, int mark) {
+            setMark(corner, other, mark);
+            setMark(other, corner, mark);
         }
 
         private void setMark(int corner, int other, int mark) {
@@ -1720,9 +1735,9 @@ public final class FogWatch {
         /** A mark is the fewest whistles that tell the two; NONE: none do. */
         void tellApart(Streets streets, Town town) {
             for (int corner = 0; corner < streets.corners; corner++) {
-                for (int other = 0; other < streets.corners; other++) {
+                for (int other = 0; other <= corner; other++) {
                     boolean unlike = town.bellOf(corner) != town.bellOf(other);
-                    setMark(corner, other, unlike ? 0 : NONE);
+                    setBoth(corner, other, unlike ? 0 : NONE);
                 }
             }
             boolean changed = true;
@@ -1734,9 +1749,9 @@ public final class FogWatch {
         private boolean tellBy(Streets streets, int whistles) {
             boolean changed = false;
             for (int corner = 0; corner < streets.corners; corner++) {
-                for (int other = 0; other < streets.corners; other++) {
+                for (int other = 0; other <= corner; other++) {
                     if (markOf(corner, other) == NONE && leadsToMark(streets, corner, other, whistles - 1)) {
-                        setMark(corner, other, whistles);
+                        setBoth(corner, other, whistles);
                         changed = true;
                     }
                 }
@@ -1765,8 +1780,8 @@ public final class FogWatch {
         /** A mark is who wins where one is to blow; two at one corner: the other one has won. */
         void playTurns(Streets streets) {
             for (int corner = 0; corner < streets.corners; corner++) {
-                for (int other = 0; other < streets.corners; other++) {
-                    setMark(corner, other, corner == other ? SECOND_WINS : OPEN);
+                for (int other = 0; other <= corner; other++) {
+                    setBoth(corner, other, corner == other ? SECOND_WINS : OPEN);
                 }
             }
             boolean changed = true;
@@ -1778,10 +1793,10 @@ public final class FogWatch {
         private boolean settleTurns(Streets streets) {
             boolean changed = false;
             for (int corner = 0; corner < streets.corners; corner++) {
-                for (int other = 0; other < streets.corners; other++) {
+                for (int other = 0; other <= corner; other++) {
                     if (markOf(corner, other) == OPEN) {
                         int mark = winner(streets, corner, other);
-                        setMark(corner, other, mark);
+                        setBoth(corner, other, mark);
                         changed = changed || mark != OPEN;
                     }
                 }
