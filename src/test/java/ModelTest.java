@@ -104,7 +104,7 @@ public final class ModelTest {
     private String townText() {
         StringBuilder text = new StringBuilder();
         int many = draw.nextInt(4) == 0 ? 10 : 1 + n(7);
-        int bells = 1 + n(4);
+        int bells = draw.nextInt(5) == 0 ? 10 : 1 + n(4);
         for (int i = 0; i < many; i++) {
             text.append(gap()).append("corner").append(number(bells)).append(gap()).append(';');
         }
@@ -307,11 +307,27 @@ public final class ModelTest {
             case 31: both("wind()", x::wind, plain::wind); break;
             case 32: case 33: askWatch(seed, q, nights, near(3)); break;
             case 34: askSpan(new int[] {seed, 1 + near(9), q, nights, near(2), a}); break;
-            case 35: both("image()", x::image, plain::image); break;
+            case 35: askImages(); break;
             case 36: both("restore()", x::restore, plain::restore); break;
             case 37: both("status(" + w + ")", () -> x.status(w), () -> plain.status(w)); break;
             case 38: both("count(" + w + ")", () -> x.count(w), () -> plain.count(w)); break;
             default: askAll(); break;
+        }
+    }
+
+    /** Images and works undone come in handfuls, so that what they hold has been written over by others. */
+    private void askImages() {
+        for (int i = 1 + n(6); i > 0; i--) {
+            int kind = n(6);
+            if (kind == 0) {
+                both("image()", x::image, plain::image);
+            } else if (kind == 1) {
+                both("restore()", x::restore, plain::restore);
+            } else if (kind < 4) {
+                both("undo()", x::undo, plain::undo);
+            } else {
+                text("work", workText(), 150);
+            }
         }
     }
 

@@ -130,6 +130,11 @@ public final class PromiseTest {
         dueTown("corner 4294967296;", -8, 7);
         dueTown("Corner 1;", -9, 0);
         dueTown("corner x;", -9, 7);
+        dueTown("cornera 1;", -9, 0);
+        dueTown("cornerz 1;", -9, 0);
+        dueTown("corner{1;", -9, 6);
+        dueTown("corner 1:", -9, 8);
+        dueTown("corner /;", -9, 7);
         dueTown("corner -1;", -9, 7);
         dueTown("corner 1", -9, 8);
         dueTown("corner 1  ", -9, 10);
@@ -354,6 +359,10 @@ public final class PromiseTest {
         due("the night", 400, () -> x.told(3));
         due("refused ones are begun, too", 0, () -> Probe.work(x, "again 40[night;night;night;night;night;];rest 1;"));
         due("refused", 199, () -> x.told(10));
+        // 1 again, 39 times 5 of them, each 40 times nothing
+        due("agains of nothing come to their end", 1,
+            () -> Probe.work(x, "again 39[" + times("again 40[];", 5) + "];fog 2;"));
+        due("and back", 1, () -> Probe.work(x, "fog 2;"));
         due("three times two", 6, () -> Probe.work(x, "again 3[again 2[fog 1;];];"));
         due("fog", 0, () -> x.told(4));
         FogWatch y = Probe.in("corner 0;breath 200;");
@@ -661,6 +670,10 @@ public final class PromiseTest {
         Probe.work(x, "fog 0;fog 1;");
         due("three in fog hear none", 3, () -> x.look(1));
         due("of alike ones the first", 0, () -> x.look(0));
+        // bells 8 and 9 and none are three
+        FogWatch high = Probe.in("corner 8;corner 9;corner 0;");
+        Probe.work(high, "fog 2;");
+        due("each hears something else", 1, () -> high.look(1));
         // fits are counted, not where they are then: 0 and 1 both end at 2
         FogWatch y = Probe.in("corner 0;corner 0;corner 0;way 0 0 2;way 0 1 2;way 0 2 2;");
         Probe.song(y, "0;");
@@ -856,6 +869,21 @@ public final class PromiseTest {
         due("full", -20, () -> Probe.work(x, ""));
         x.restore();
         due("as many as in the image", 2, () -> x.count(2));
+        FogWatch y = Probe.in(RING);
+        Probe.work(y, "rest 1;");
+        Probe.work(y, "rest 2;");
+        y.image();
+        y.undo();
+        y.undo();
+        Probe.work(y, "rest 10;");
+        Probe.work(y, "rest 20;");
+        Probe.work(y, "rest 40;");
+        due("restored", 0, y::restore);
+        due("breath", 63, () -> y.told(2));
+        due("the works of the image are undone", 1, y::undo);
+        due("breath", 61, () -> y.told(2));
+        due("and the first one", 0, y::undo);
+        due("breath", 60, () -> y.told(2));
     }
 
     private void refusals() {
