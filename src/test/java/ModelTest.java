@@ -52,8 +52,12 @@ public final class ModelTest {
     }
 
     private long both(String what, Probe.Call program, Probe.Call model) {
-        calls++;
         long want = plainAnswer(model);
+        if (calls >= CALLS) {
+            // nothing is promised of an object's later calls
+            return want;
+        }
+        calls++;
         long got = Probe.answerOf(program);
         if (told.size() > 40) {
             told.remove(0);
