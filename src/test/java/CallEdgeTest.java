@@ -131,14 +131,14 @@ public final class CallEdgeTest {
             int top = most[kind.ordinal()];
             Probe.Maker full = () -> filled(busy(), 600);
             for (int n : new int[] {-1, LOWEST, HIGHEST, top + 1, 601}) {
-                probe.dueRefused(kind + " of " + n, ILLEGAL, full, x -> Probe.read(x, kind, n));
+                probe.dueKept(kind + " of " + n, ILLEGAL, full, x -> Probe.read(x, kind, n));
             }
             Probe.Maker twenty = () -> filled(busy(), 20);
             for (int n : new int[] {-1, 21, 40}) {
-                probe.dueRefused(kind + " of " + n + ", the tape having 20", ILLEGAL, twenty, x -> Probe.read(x, kind, n));
+                probe.dueKept(kind + " of " + n + ", the tape having 20", ILLEGAL, twenty, x -> Probe.read(x, kind, n));
             }
             Probe.Maker none = () -> filled(busy(), 0);
-            probe.dueRefused(kind + " of 1, the tape being empty", ILLEGAL, none, x -> Probe.read(x, kind, 1));
+            probe.dueKept(kind + " of 1, the tape being empty", ILLEGAL, none, x -> Probe.read(x, kind, 1));
             for (int n : new int[] {0, 1, 19, 20}) {
                 FogWatch x = twenty.make();
                 due(kind + " of " + n + " is read", kind == Probe.Text.LAW ? -9 : 0, () -> Probe.read(x, kind, n));
@@ -289,13 +289,13 @@ public final class CallEdgeTest {
         due("the tape is empty", 0, () -> x.count(1));
         due("refused ones are those of the latest work", 1, () -> x.told(10));
         for (int n : new int[] {-1, 21, 151}) {
-            probe.dueRefused("n " + n + " ahead of -20", ILLEGAL, () -> {
+            probe.dueKept("n " + n + " ahead of -20", ILLEGAL, () -> {
                 FogWatch full = withSixteen();
                 Probe.put(full, "night;");
                 return full;
             }, y -> y.work(n));
         }
-        probe.dueAsked("nothing is done", -20, CallEdgeTest::withSixteen, y -> Probe.work(y, "night;walk 0 0;"));
+        probe.dueKept("nothing is done", -20, CallEdgeTest::withSixteen, y -> Probe.work(y, "night;walk 0 0;"));
         FogWatch faulty = Probe.in(RING);
         for (int i = 0; i < 20; i++) {
             due("a work with a fault", -8, () -> Probe.work(faulty, "night;blow 4;"));
@@ -374,9 +374,10 @@ public final class CallEdgeTest {
         Probe.book(full, Probe.times("0;", 20));
         due("whistles", 20, () -> full.told(8));
         due("bells", 20, () -> full.told(9));
-        due("two at 0, two at 1, one at 2", 2, () -> Probe.in("corner 0;corner 0;corner 0;man 1;man 0;man 2;man 0;man 1;").told(11));
-        due("four at 3, one at 4", 4, () -> Probe.in(Probe.times("corner 0;", 5) + "man 3;man 4;man 3;man 3;man 3;").told(11));
-        due("one each", 1, () -> Probe.in(Probe.times("corner 0;", 5) + "man 0;man 1;man 2;man 3;man 4;").told(11));
+        String five = Probe.times("corner 0;", 5);
+        due("two at 0, two at 1, one at 2", 2, () -> Probe.in(five + "man 1;man 0;man 2;man 0;man 1;").told(11));
+        due("four at 3, one at 4", 4, () -> Probe.in(five + "man 3;man 4;man 3;man 3;man 3;").told(11));
+        due("one each", 1, () -> Probe.in(five + "man 0;man 1;man 2;man 3;man 4;").told(11));
         FogWatch nobody = Probe.in("corner 0;");
         due("nobody is anywhere", 0, () -> nobody.told(7));
         due("none is most", 0, () -> nobody.told(11));
@@ -465,7 +466,7 @@ public final class CallEdgeTest {
                 due(facts[i] + " " + value, value % 61 == 60 ? 60 : value % 61, () -> would(x, at, value));
             }
             for (int value : new int[] {-1, most[i] + 1, LOWEST, HIGHEST}) {
-                probe.dueRefused(facts[i] + " " + value, ILLEGAL, CallEdgeTest::busy, y -> would(y, at, value));
+                probe.dueKept(facts[i] + " " + value, ILLEGAL, CallEdgeTest::busy, y -> would(y, at, value));
             }
         }
         FogWatch x = busy();
@@ -506,13 +507,13 @@ public final class CallEdgeTest {
         due("night 0", 0, () -> x.told(3));
         due("none", -1, x::restore);
         due("none", 0, () -> x.count(0));
-        probe.dueAsked("a fourth changes nothing", -1, () -> {
+        probe.dueKept("a fourth changes nothing", -1, () -> {
             FogWatch y = busy();
             y.image();
             y.image();
             return y;
         }, FogWatch::image);
-        probe.dueAsked("no image: nothing changes", -1, () -> {
+        probe.dueKept("no image: nothing changes", -1, () -> {
             FogWatch y = Probe.in(RING);
             Probe.work(y, "night;walk 0 0;");
             return y;
@@ -623,11 +624,11 @@ public final class CallEdgeTest {
     // ---- every call
 
     private void illegal(String what, Probe.Ask ask) {
-        probe.dueRefused(what, ILLEGAL, CallEdgeTest::busy, ask);
+        probe.dueKept(what, ILLEGAL, CallEdgeTest::busy, ask);
     }
 
     private void missing(String what, Probe.Ask ask) {
-        probe.dueRefused(what, MISSING, CallEdgeTest::busy, ask);
+        probe.dueKept(what, MISSING, CallEdgeTest::busy, ask);
     }
 
     private void illegalOnes() {
@@ -745,7 +746,7 @@ public final class CallEdgeTest {
         FogWatch x = busy();
         long want = ask.of(x);
         due(what + " asked again", want, () -> ask.of(x));
-        probe.dueAsked(what, want, CallEdgeTest::busy, ask);
+        probe.dueKept(what, want, CallEdgeTest::busy, ask);
     }
 
     /** Asked, nothing stays changed, nobody is moved. */

@@ -87,28 +87,23 @@ final class Probe {
     }
 
     static int town(FogWatch x, String text) {
-        put(x, text);
-        return x.town(text.length());
+        return tell(x, Text.TOWN, text);
     }
 
     static int law(FogWatch x, String text) {
-        put(x, text);
-        return x.law(text.length());
+        return tell(x, Text.LAW, text);
     }
 
     static int work(FogWatch x, String text) {
-        put(x, text);
-        return x.work(text.length());
+        return tell(x, Text.WORK, text);
     }
 
     static int song(FogWatch x, String text) {
-        put(x, text);
-        return x.song(text.length());
+        return tell(x, Text.SONG, text);
     }
 
     static int book(FogWatch x, String text) {
-        put(x, text);
-        return x.book(text.length());
+        return tell(x, Text.BOOK, text);
     }
 
     static FogWatch in(String town) {
@@ -152,19 +147,8 @@ final class Probe {
         }
     }
 
-    /** The call answers so, throws nothing, counts no refusal, and of all else nothing is changed by it. */
-    void dueAsked(String what, long want, Maker maker, Ask ask) {
-        FogWatch x = maker.make();
-        int fault = x.fault();
-        due(what, want, () -> ask.of(x));
-        due("no such element behind " + what, 0, () -> x.status(0));
-        due("no illegal argument behind " + what, 0, () -> x.status(1));
-        due("fault behind " + what, fault, x::fault);
-        dueSame("all stays behind " + what, wholeOf(maker.make()), wholeOf(x));
-    }
-
-    /** The call throws this, is counted once, and changes nothing. */
-    void dueRefused(String what, long want, Maker maker, Ask ask) {
+    /** The call answers or throws this, is counted once if it throws, and changes nothing else. */
+    void dueKept(String what, long want, Maker maker, Ask ask) {
         FogWatch x = maker.make();
         int fault = x.fault();
         due(what, want, () -> ask.of(x));
