@@ -252,6 +252,10 @@ public final class AskEdgeTest {
         due("row of all, asked behind home", 0, () -> x.row(15, 5));
         due("cheap between", 9, () -> x.cheap(15));
         due("row of all, asked behind cheap", 1, () -> x.row(15, 8));
+        Probe.law(x, "7");
+        due("dearer now", 63, () -> x.cheap(15));
+        due("no more whistles by that", 9, () -> x.reset(15, 0));
+        due("nor a longer row", NONE, () -> x.row(15, 9));
     }
 
     private void homes() {
@@ -656,6 +660,7 @@ public final class AskEdgeTest {
         due("in fog he does not come", 0, () -> x.from(0, 0));
         FogWatch ten = Probe.in(TEN + "way 2 0 9;way 2 8 9;");
         due("to the last", 769, () -> ten.from(9, 2));
+        due("by another whistle nobody comes to the last", 512, () -> ten.from(9, 1));
         FogWatch poor = Probe.in(RING + "breath 0;");
         due("breath is not asked for", 8, () -> poor.from(0, 0));
     }
