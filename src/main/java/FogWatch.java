@@ -1008,8 +1008,8 @@ public final class FogWatch {
                 case MULTIPLY: return a * b;
                 case DIVIDE: return b == 0 ? 0 : a / b;
                 case LEAVE: return b == 0 ? 0 : a % b;
-                case LEAST: return Math.min(a, b);
-                default: return Math.max(a, b);
+                case LEAST: return a < b ? a : b;
+                default: return a > b ? a : b;
             }
         }
     }
