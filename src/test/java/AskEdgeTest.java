@@ -21,6 +21,7 @@ public final class AskEdgeTest {
         AskEdgeTest test = new AskEdgeTest();
         test.aheadBounds();
         test.aheadInFog();
+        test.aheadOfTheLastNight();
         test.goesBounds();
         test.goesBySong();
         test.setsOfNoCorners();
@@ -109,6 +110,21 @@ public final class AskEdgeTest {
         due("nearly round", 256, () -> ten.ahead(99, 0));
         FogWatch one = in("corner 0;man 0;", "fog 0;");
         due("one corner", 1, () -> one.ahead(99, 0));
+    }
+
+    /** Nights of work end at 400; what is asked here goes on. */
+    private void aheadOfTheLastNight() {
+        FogWatch x = in(RING, "fog 3;");
+        for (int i = 0; i < 2; i++) {
+            due("160 nights", 160, () -> Probe.work(x, "again 40[night;night;night;night;];"));
+        }
+        due("80 nights", 80, () -> Probe.work(x, "again 40[night;night;];night;"));
+        due("night", 400, () -> x.told(3));
+        due("one was refused", 1, () -> x.told(10));
+        due("fog now", 8, () -> x.ahead(0, 0));
+        due("fog in one night", 1, () -> x.ahead(1, 0));
+        due("men in fog in one night", 1, () -> x.ahead(1, 1));
+        due("fog in 99 nights", 4, () -> x.ahead(99, 0));
     }
 
     // ---- promise 17
@@ -300,6 +316,13 @@ public final class AskEdgeTest {
         Probe.law(ten, "(1-whistle)*60");
         due("only the turning ones cost", 72 * 60, () -> ten.cheap(1023));
         due("breath is not asked for", 60, () -> ten.told(2));
+        // neither 0 nor 1 can be blown, which is not asked here; 2 and 3 cost nothing and lead nowhere
+        FogWatch breathless = Probe.in(town + "breath 0;");
+        Probe.law(breathless, "60-whistle*31");
+        due("breath for 2 and 3 alone", 2, breathless::wind);
+        due("each dearer than the breath", 58, () -> breathless.cheap(3));
+        due("by how many", 1, () -> breathless.reset(3, 0));
+        due("home all the same", 1, () -> breathless.home(3, 2));
     }
 
     private void cheapNow() {
